@@ -1,0 +1,83 @@
+/** Counts what is not as it should be; a test's main method ends with finish(). */
+final class Check {
+    /** A call that should throw. */
+    interface Call {
+        void run();
+    }
+
+    private static int checks = 0;
+    private static int wrong = 0;
+
+    private Check() {
+    }
+
+    static void same(String what, long got, long want) {
+        checks++;
+        if (got != want) {
+            tell(what + ": got " + got + ", due is " + want);
+        }
+    }
+
+    static void same(String what, boolean got, boolean want) {
+        same(what, got ? 1 : 0, want ? 1 : 0);
+    }
+
+    static void same(String what, float got, float want) {
+        same(what, (long) Float.floatToIntBits(got), (long) Float.floatToIntBits(want));
+    }
+
+    static void same(String what, double got, double want) {
+        same(what, Double.doubleToLongBits(got), Double.doubleToLongBits(want));
+    }
+
+    static void same(String what, String got, String want) {
+        checks++;
+        if (!got.equals(want)) {
+            tell(what + ":\n  got    " + got + "\n  due is " + want);
+        }
+    }
+
+    /** The call must throw just this class, and leave all that the farm tells as it was. */
+    static void refuses(String what, ThresholdRow farm, Class<? extends RuntimeException> due, Call call) {
+        checks++;
+        String before = Snapshot.of(farm);
+        Class<?> got = null;
+        try {
+            call.run();
+        } catch (RuntimeException thrown) {
+            got = thrown.getClass();
+        }
+        if (got != due) {
+            tell(what + ": threw " + got + ", due is " + due);
+        }
+        same(what + " changes nothing", Snapshot.of(farm), before);
+    }
+
+    static void index(String what, ThresholdRow farm, Call call) {
+        refuses(what, farm, IndexOutOfBoundsException.class, call);
+    }
+
+    static void argument(String what, ThresholdRow farm, Call call) {
+        refuses(what, farm, IllegalArgumentException.class, call);
+    }
+
+    static void state(String what, ThresholdRow farm, Call call) {
+        refuses(what, farm, IllegalStateException.class, call);
+    }
+
+    static void unsupported(String what, ThresholdRow farm, Call call) {
+        refuses(what, farm, UnsupportedOperationException.class, call);
+    }
+
+    static void tell(String what) {
+        wrong++;
+        System.out.println(what);
+    }
+
+    static void finish(String test) {
+        System.out.println(test + ": " + checks + " checks, " + wrong + " wrong");
+        if (wrong != 0) {
+            System.exit(1);
+        }
+    }
+}
