@@ -37,10 +37,9 @@ final class Check {
         }
     }
 
-    /** The call must throw just this class, and leave all that the farm tells as it was. */
-    static void refuses(String what, ThresholdRow farm, Class<? extends RuntimeException> due, Call call) {
+    /** The call must throw just this class, not one below it. */
+    static void refuses(String what, Class<? extends RuntimeException> due, Call call) {
         checks++;
-        String before = Snapshot.of(farm);
         Class<?> got = null;
         try {
             call.run();
@@ -50,23 +49,22 @@ final class Check {
         if (got != due) {
             tell(what + ": threw " + got + ", due is " + due);
         }
-        same(what + " changes nothing", Snapshot.of(farm), before);
     }
 
-    static void index(String what, ThresholdRow farm, Call call) {
-        refuses(what, farm, IndexOutOfBoundsException.class, call);
+    static void index(String what, Call call) {
+        refuses(what, IndexOutOfBoundsException.class, call);
     }
 
-    static void argument(String what, ThresholdRow farm, Call call) {
-        refuses(what, farm, IllegalArgumentException.class, call);
+    static void argument(String what, Call call) {
+        refuses(what, IllegalArgumentException.class, call);
     }
 
-    static void state(String what, ThresholdRow farm, Call call) {
-        refuses(what, farm, IllegalStateException.class, call);
+    static void state(String what, Call call) {
+        refuses(what, IllegalStateException.class, call);
     }
 
-    static void unsupported(String what, ThresholdRow farm, Call call) {
-        refuses(what, farm, UnsupportedOperationException.class, call);
+    static void unsupported(String what, Call call) {
+        refuses(what, UnsupportedOperationException.class, call);
     }
 
     static void tell(String what) {
