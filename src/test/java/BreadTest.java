@@ -103,6 +103,9 @@ public final class BreadTest {
         Check.argument("a price of 201", () -> farm.bake(1, 201));
         Check.unsupported("999 loaves", () -> farm.bake(999, 200));
         Check.same("nothing changes", Snapshot.of(farm), before);
+        ThresholdRow other = withBin();
+        other.grind(0, 64);
+        Check.same("2000 by 29, cut", other.bake(1, 29), 68);
         Check.same("756 by 36: all", farm.bake(21, 55), 36);
         Check.same("no flour", farm.flour(), 0);
     }

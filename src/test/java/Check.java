@@ -37,7 +37,7 @@ final class Check {
         }
     }
 
-    /** The call must throw just this class, not one below it. */
+    /** The call must throw just this class, not one below it, and by itself. */
     static void refuses(String what, Class<? extends RuntimeException> due, Call call) {
         checks++;
         Class<?> got = null;
@@ -45,9 +45,19 @@ final class Check {
             call.run();
         } catch (RuntimeException thrown) {
             got = thrown.getClass();
+            thrownByFarm(what, thrown);
         }
         if (got != due) {
             tell(what + ": threw " + got + ", due is " + due);
+        }
+    }
+
+    /** A list's own IndexOutOfBoundsException is of the class that is due, so its class alone does not tell. */
+    static void thrownByFarm(String what, Throwable thrown) {
+        StackTraceElement[] calls = thrown.getStackTrace();
+        String thrower = calls.length == 0 ? "nobody" : calls[0].getClassName();
+        if (!thrower.startsWith("ThresholdRow")) {
+            tell(what + ": thrown by " + thrower);
         }
     }
 

@@ -73,7 +73,8 @@ public final class GangTest {
         Check.same("stroke of the second", farm.strokeOf(3), 12);
         Check.same("stroke of the last", farm.strokeOf(0), 48);
         Check.state("a sixth", () -> farm.stand(5));
-        Check.unsupported("one of five again", () -> farm.stand(0));
+        Check.unsupported("the last of five again", () -> farm.stand(0));
+        Check.unsupported("the first of five again", () -> farm.stand(4));
         Check.index("no such hand, five stand", () -> farm.stand(6));
         Check.same("who could not stand", farm.placeOf(5), -1);
     }
@@ -140,6 +141,12 @@ public final class GangTest {
         farm.practise(1);
         Check.same("fatigue 100", farm.errorOf(1), -7);
         Check.same("no habit, no direction", farm.errorOf(2), 0);
+        ThresholdRow slight = Farms.withHands(5, 1, -1);
+        Farms.tirePair(slight, 0, 1, 30);
+        Farms.stand(slight, 0, 1);
+        slight.practise(1);
+        Check.same("a habit of 1", slight.errorOf(0), 4);
+        Check.same("a habit of -1", slight.errorOf(1), -4);
     }
 
     private static ThresholdRow tiredFive(int tired, int other, int... order) {
@@ -183,6 +190,12 @@ public final class GangTest {
         Check.same("the last", last.lost(0), 0);
         ThresholdRow holds = tiredFive(10, 10, 1, 2, 3, 4, 0);
         Check.same("last and first 4 ticks apart", holds.practise(1), 1);
+        ThresholdRow close = tiredFive(20, 10, 1, 2, 3, 4, 0);
+        Check.same("last and first 3 ticks apart", close.practise(1), 0);
+        Check.same("lost by the last", close.lost(0), 1);
+        ThresholdRow end = tiredFive(20, 10, 2, 3, 4, 0, 1);
+        Check.same("the last but one and the last 3 ticks apart", end.practise(1), 0);
+        Check.same("lost by the last but one", end.lost(0), 1);
         ThresholdRow twice = Farms.withHands(5, 3, -3, 3, -3, 0);
         Farms.tirePair(twice, 0, 1, 20);
         Farms.tirePair(twice, 2, 3, 25);

@@ -12,6 +12,7 @@ public final class LotsTest {
         brokenRoundsFreeNothing();
         threshingArguments();
         winnowing();
+        winnowingWhole();
         winnowingArguments();
         clearing();
         clearingWithoutGleaning();
@@ -152,6 +153,23 @@ public final class LotsTest {
         Check.same("blown away", farm.account('w'), 366);
         Check.same("the other heap", farm.heapOf(0, 'c'), 9250);
         Check.same("sound", farm.isSound(), true);
+    }
+
+    private static void winnowingWhole() {
+        ThresholdRow farm = Farms.withDrum(1, 2, 1);
+        farm.fire(0, 9);
+        farm.fire(1, 9);
+        farm.fire(2, 9);
+        farm.fire(1, 1);
+        farm.winnow(0, 7);
+        farm.winnow(0, 7);
+        farm.winnow(0, 8);
+        Check.same("458, 454, 450 and two hundredths of it", farm.heapOf(0, 'b'), 441);
+        Check.same("carried to it twice", farm.heapOf(1, 'f'), 184);
+        for (int wind : new int[] {9, 9, 8, 8, 9}) {
+            farm.winnow(1, wind);
+        }
+        Check.same("184, 179, 174, 171, 168 and three hundredths of it", farm.heapOf(1, 'f'), 163);
     }
 
     private static void winnowingArguments() {

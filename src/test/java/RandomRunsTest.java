@@ -1,6 +1,7 @@
 import java.lang.reflect.Constructor;
 import java.lang.reflect.InvocationTargetException;
 import java.lang.reflect.Method;
+import java.lang.reflect.Modifier;
 import java.util.ArrayList;
 import java.util.Arrays;
 import java.util.Comparator;
@@ -31,7 +32,7 @@ public final class RandomRunsTest {
     private static Method[] faceMethods() {
         List<Method> methods = new ArrayList<Method>();
         for (Method method : ThresholdRow.class.getDeclaredMethods()) {
-            if ((method.getModifiers() & java.lang.reflect.Modifier.PUBLIC) != 0) {
+            if (Modifier.isPublic(method.getModifiers())) {
                 methods.add(method);
             }
         }
@@ -57,6 +58,7 @@ public final class RandomRunsTest {
                 answer = method.invoke(farm, given);
             } catch (InvocationTargetException thrown) {
                 Class<?> type = thrown.getCause().getClass();
+                Check.thrownByFarm(what, thrown.getCause());
                 Check.same(what + " may throw " + type, Arrays.asList(method.getExceptionTypes()).contains(type), true);
                 continue;
             }

@@ -122,6 +122,17 @@ public final class RatsTest {
         Check.same("now that has the most", farm.binOf(5, 'g'), 126);
         Check.same("and not the first", farm.binOf(4, 'g'), 127);
         Check.same("nor the least", farm.binOf(1, 'g'), 64);
+        for (int bin = 0; bin < 6; bin++) {
+            ratsFind(bin);
+        }
+    }
+
+    private static void ratsFind(int bin) {
+        ThresholdRow farm = Farms.withHeap(0);
+        farm.measure(0, bin, 0, 's', 1);
+        farm.addRats(1);
+        farm.pass(1);
+        Check.same("the bin with grain", farm.binOf(bin, 'g'), 63);
     }
 
     private static void lastGrain() {

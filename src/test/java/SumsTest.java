@@ -118,7 +118,12 @@ public final class SumsTest {
         Check.same("6 of 128", farm.bruisedShare(), 0.046875f);
         farm.grind(4, 7);
         Check.same("6 of 121", farm.bruisedShare(), 6f / 121f);
-        farm.grind(4, 121);
+        farm.grind(4, 120);
+        Check.same("1 of 1", farm.bruisedShare(), 1f);
+        farm.measure(0, 0, 0, 's', 1);
+        Check.same("4 of 65", farm.bruisedShare(), 4f / 65f);
+        farm.grind(0, 64);
+        farm.grind(4, 1);
         Check.refuses("no more grain", ArithmeticException.class, () -> farm.bruisedShare());
     }
 
