@@ -244,12 +244,9 @@ public final class ThresholdRow {
     }
 
     public int setBushel(int house, int pints) throws IndexOutOfBoundsException, IllegalArgumentException {
-        checkHouse(house);
-        checkRange(pints, 56, 72);
         int before = bushelOf(house);
-        if (house >= 0 && house < bushelPints.length) {
-            bushelPints[house] = pints;
-        }
+        checkRange(pints, 56, 72);
+        bushelPints[house] = pints;
         return before;
     }
 
@@ -257,7 +254,6 @@ public final class ThresholdRow {
             throws IndexOutOfBoundsException, IllegalArgumentException, UnsupportedOperationException {
         Lot from = lotAt(lot);
         Bin into = binAt(bin);
-        checkHouse(house);
         int pints = pintsByWay(bushelOf(house), way);
         checkRange(bushels, 1, 99);
         int tithes = bound(TITHE) ? from.tithesAmong(bushels) : 0;
@@ -291,11 +287,9 @@ public final class ThresholdRow {
     }
 
     public boolean judge(int custom) throws IllegalArgumentException {
-        checkRange(custom, 0, CUSTOMS - 1);
-        boolean before = bound(custom);
-        if (custom >= 0 && custom < customs.length) {
-            customs[custom] = false;
-        }
+        checkRange(custom, 0, customs.length - 1);
+        boolean before = customs[custom];
+        customs[custom] = false;
         return before;
     }
 
@@ -495,12 +489,6 @@ public final class ThresholdRow {
         }
     }
 
-    private void checkHouse(int house) {
-        if (house < 0 || house >= bushelPints.length) {
-            throw new IndexOutOfBoundsException("no such house");
-        }
-    }
-
     private Hand handAt(int hand) {
         if (hand < 0 || hand >= hands.size()) {
             throw new IndexOutOfBoundsException("no such hand");
@@ -522,6 +510,13 @@ public final class ThresholdRow {
         return bins.get(bin);
     }
 
+    private int bushelOf(int house) {
+        if (house < 0 || house >= bushelPints.length) {
+            throw new IndexOutOfBoundsException("no such house");
+        }
+        return bushelPints[house];
+    }
+
     private int placeNeeded(Hand hand) {
         int place = gang.placeFor(hand);
         if (place < 0) {
@@ -532,10 +527,6 @@ public final class ThresholdRow {
 
     private boolean bound(int custom) {
         return custom >= 0 && custom < customs.length && customs[custom];
-    }
-
-    private int bushelOf(int house) {
-        return house >= 0 && house < bushelPints.length ? bushelPints[house] : FIRST_BUSHEL;
     }
 
     private static int pintsByWay(int pints, char way) {
@@ -710,7 +701,7 @@ public final class ThresholdRow {
 
         void letGo(Hand hand) {
             int place = placeFor(hand);
-            if (place >= 0 && place < order.size()) {
+            if (place >= 0) {
                 order.remove(place);
             }
         }
