@@ -52,6 +52,15 @@ final class Check {
         }
     }
 
+    static void takes(String what, Call call) {
+        checks++;
+        try {
+            call.run();
+        } catch (RuntimeException thrown) {
+            tell(what + ": threw " + thrown);
+        }
+    }
+
     /** A list's own IndexOutOfBoundsException is of the class that is due, so its class alone does not tell. */
     static void thrownByFarm(String what, Throwable thrown) {
         StackTraceElement[] calls = thrown.getStackTrace();

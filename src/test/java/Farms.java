@@ -69,4 +69,28 @@ final class Farms {
             farm.winnow(lot, 6);
         }
     }
+
+    /** A lot whose 9999 pints all lie on its heap: sound, of its own crop, with little chaff. */
+    static void threshWhole(ThresholdRow farm, int lot) {
+        farm.thresh(lot, 'c', 99);
+        for (int times = 0; times < 3; times++) {
+            farm.winnow(lot, 6);
+        }
+    }
+
+    /** Bin 0 with 9999 pints, all sound and of one crop; custom 0 binds no more. */
+    static ThresholdRow withFullBin() {
+        ThresholdRow farm = withGang(6, 6, 6, 6, 6);
+        farm.judge(0);
+        farm.addLot(2, 9999, 0);
+        farm.addLot(2, 9999, 0);
+        threshWhole(farm, 0);
+        threshWhole(farm, 1);
+        farm.setBushel(0, 72);
+        farm.measure(0, 0, 0, 's', 99);
+        farm.measure(1, 0, 0, 's', 39);
+        farm.setBushel(0, 63);
+        farm.measure(1, 0, 0, 's', 1);
+        return farm;
+    }
 }
